@@ -418,10 +418,26 @@ public final class FirstIn {
         }
     }
 
-    /** The bytes that were fed. */
+    /** The bytes that were fed, and the tokens in them, one at a time. */
     private static final class Text {
+        // Kinds of tokens; a strange one is a byte that begins none.
+        static final int END = 0;
+        static final int WORD = 1;
+        static final int NUMBER = 2;
+        static final int STOP = 3;
+        static final int STRANGE = 4;
+        // Letters count 1 .. 26, so that no two words of at most 8 letters have one code.
+        static final int LETTER_BASE = 32;
+        // Above the codes of those words, and above every number that can stand in a text.
+        static final long HUGE = 1L << 40;
+
         final byte[] bytes = new byte[MOST_BYTES];
         int length = 0;
+        int kind = END;
+        int from = 0;
+        int to = 0;
+        // A word's code or a number's value; HUGE if it would be more.
+        long code = 0;
 
         void append(int number) {
             for (int shift = 24; shift >= 0; shift -= 8) {
@@ -440,155 +456,120 @@ public final class FirstIn {
             return true;
         }
 
-        /** 0 .. 255; NONE beyond the text's end. */
-        int byteAt(int place) {
-            boolean there = place >= 0 && place < length && place < bytes.length;
-            return there ? bytes[place] & 255 : NONE;
-        }
-    }
-
-    /** The tokens of a text, one at a time. */
-    private static final class Tokens {
-        static final int END = 0;
-        static final int WORD = 1;
-        static final int NUMBER = 2;
-        static final int STOP = 3;
-        static final int STRANGE = 4;
-        // Far above every number that can stand in a text.
-        static final int HUGE = 1000;
-
-        final Text text;
-        int kind = END;
-        int from = 0;
-        int to = 0;
-
-        Tokens(Text text) {
-            this.text = text;
-        }
-
         void begin() {
             to = 0;
             advance();
         }
 
         void advance() {
-            from = behindBlanks(to);
-            int sign = text.byteAt(from);
-            if (sign == NONE) {
+            from = to;
+            while (from < length && (signAt(from) == 32 || signAt(from) == 10)) {
+                from++;
+            }
+            to = from;
+            code = 0;
+            int sign = signAt(from);
+            if (from >= length) {
                 kind = END;
-                to = from;
             } else if (sign >= 'a' && sign <= 'z') {
                 kind = WORD;
-                to = runEnd(from, 'a', 'z');
+                takeRun('a', 'z', LETTER_BASE);
             } else if (sign >= '0' && sign <= '9') {
                 kind = NUMBER;
-                to = runEnd(from, '0', '9');
+                takeRun('0', '9', 10);
             } else {
                 kind = sign == ';' ? STOP : STRANGE;
                 to = from + 1;
             }
         }
 
-        int behindBlanks(int start) {
-            int place = start;
-            while (place < text.length && (text.byteAt(place) == 32 || text.byteAt(place) == 10)) {
-                place++;
+        void takeRun(int low, int high, int base) {
+            int zero = base == LETTER_BASE ? low - 1 : low;
+            while (to < length && to < bytes.length && bytes[to] >= low && bytes[to] <= high) {
+                code = code * base + bytes[to] - zero;
+                code = code < HUGE ? code : HUGE;
+                to++;
             }
-            return place;
         }
 
-        int runEnd(int start, int low, int high) {
-            int place = start;
-            while (place < text.length && text.byteAt(place) >= low && text.byteAt(place) <= high) {
-                place++;
-            }
-            return place;
+        /** Bytes of 128 and more are below 0, as is what lies beyond the end: no sign of a token. */
+        int signAt(int place) {
+            return place >= 0 && place < length && place < bytes.length ? bytes[place] : NONE;
         }
 
-        boolean isWord(String word) {
-            if (kind != WORD || to - from != word.length()) {
-                return false;
-            }
+        boolean isWord(long wordCode) {
+            return kind == WORD && code == wordCode;
+        }
+
+        boolean isNumber(int low, int high) {
+            return kind == NUMBER && code >= low && code <= high;
+        }
+
+        static long codeOf(String word) {
+            long code = 0;
             for (int k = 0; k < word.length(); k++) {
-                if (text.byteAt(from + k) != word.charAt(k)) {
-                    return false;
-                }
+                code = code * LETTER_BASE + word.charAt(k) - ('a' - 1);
             }
-            return true;
-        }
-
-        boolean isSameAs(int start, int length) {
-            if (kind != WORD || to - from != length) {
-                return false;
-            }
-            for (int k = 0; k < length; k++) {
-                if (text.byteAt(from + k) != text.byteAt(start + k)) {
-                    return false;
-                }
-            }
-            return true;
-        }
-
-        /** The number's value, or HUGE if it is as much or more. */
-        int value() {
-            int value = 0;
-            for (int place = from; place < to; place++) {
-                value = Math.min(HUGE, value * 10 + text.byteAt(place) - '0');
-            }
-            return value;
+            return code;
         }
     }
 
     /** Reads a court; where a reading method answers false, the fault is at the token that stands there. */
     private static final class Reader {
         static final int MOST_NAMES = MOST_GUESTS + MOST_MARKS;
-        static final int MOST_LETTERS = 8;
-        static final int KEYWORDS = 9;
 
-        final Tokens tokens;
-        final int[] nameFrom = new int[MOST_NAMES];
-        final int[] nameLength = new int[MOST_NAMES];
+        final Text text;
+        final long guestWord = Text.codeOf("guest");
+        final long markWord = Text.codeOf("mark");
+        final long isWord = Text.codeOf("is");
+        final long aboveWord = Text.codeOf("above");
+        final long evenWord = Text.codeOf("even");
+        final long apartWord = Text.codeOf("apart");
+        final long byWord = Text.codeOf("by");
+        final long inWord = Text.codeOf("in");
+        final long unlessWord = Text.codeOf("unless");
+        final long[] nameCodes = new long[MOST_NAMES];
         final int[] nameMeans = new int[MOST_NAMES];
         int names = 0;
 
         Reader(Text text) {
-            tokens = new Tokens(text);
+            this.text = text;
         }
 
         /** The fault of the text; without one (NONE) the court is written. */
         int readInto(Court court) {
             names = 0;
             court.empty();
-            tokens.begin();
-            for (int line = 0; line < MOST_BYTES && tokens.kind != Tokens.END; line++) {
+            text.begin();
+            for (int line = 0; line < MOST_BYTES && text.kind != Text.END; line++) {
                 if (!readLine(court)) {
-                    return tokens.from;
+                    return text.from;
                 }
             }
-            return court.guests == 0 ? tokens.from : NONE;
+            return court.guests == 0 ? text.from : NONE;
         }
 
         boolean readLine(Court court) {
-            if (tokens.isWord("guest")) {
+            if (text.isWord(guestWord)) {
                 return readGuest(court);
             }
-            if (tokens.isWord("mark")) {
+            if (text.isWord(markWord)) {
                 return readMark(court);
             }
-            if (tokens.isWord("above")) {
+            if (text.isWord(aboveWord)) {
                 return readRule(court, ABOVE);
             }
-            if (tokens.isWord("even")) {
+            if (text.isWord(evenWord)) {
                 return readRule(court, EVEN);
             }
-            return tokens.isWord("apart") && readRule(court, APART);
+            return text.isWord(apartWord) && readRule(court, APART);
         }
 
         boolean readGuest(Court court) {
             if (court.guests >= MOST_GUESTS) {
                 return false;
             }
-            tokens.advance();
+            text.advance();
             if (!readNewName(court.guests)) {
                 return false;
             }
@@ -600,19 +581,19 @@ public final class FirstIn {
             if (court.marks < 0 || court.marks >= MOST_MARKS) {
                 return false;
             }
-            tokens.advance();
-            if (!readNewName(MARK_BASE + court.marks) || !readWord("is")) {
+            text.advance();
+            if (!readNewName(MARK_BASE + court.marks) || !readWord(isWord)) {
                 return false;
             }
             int bits = 0;
             // One more than there can be guests: the last one is a guest told twice, if it comes so far.
-            for (int k = 0; k <= MOST_GUESTS && (k == 0 || tokens.kind != Tokens.STOP); k++) {
+            for (int k = 0; k <= MOST_GUESTS && (k == 0 || text.kind != Text.STOP); k++) {
                 int guest = meaning();
                 if (guest == NONE || guest >= MOST_GUESTS || has(bits, guest)) {
                     return false;
                 }
                 bits |= 1 << guest;
-                tokens.advance();
+                text.advance();
             }
             court.members[court.marks] = bits;
             court.marks++;
@@ -625,22 +606,22 @@ public final class FirstIn {
             }
             Rule rule = court.rules[court.ruleCount];
             rule.kind = kind;
-            tokens.advance();
+            text.advance();
             rule.first = meaning();
             if (rule.first == NONE) {
                 return false;
             }
-            tokens.advance();
+            text.advance();
             rule.second = meaning();
             if (rule.second == NONE) {
                 return false;
             }
-            tokens.advance();
-            if (!readWord("by") || !isNumber(1, MOST_WEIGHT)) {
+            text.advance();
+            if (!readWord(byWord) || !text.isNumber(1, MOST_WEIGHT)) {
                 return false;
             }
-            rule.weight = tokens.value();
-            tokens.advance();
+            rule.weight = (int) text.code;
+            text.advance();
             if (!readRoom(rule) || !readUnless(rule)) {
                 return false;
             }
@@ -651,93 +632,71 @@ public final class FirstIn {
 
         boolean readRoom(Rule rule) {
             rule.room = NONE;
-            if (!tokens.isWord("in")) {
+            if (!text.isWord(inWord)) {
                 return true;
             }
-            tokens.advance();
-            if (!isNumber(0, MOST_ROOMS - 1)) {
+            text.advance();
+            if (!text.isNumber(0, MOST_ROOMS - 1)) {
                 return false;
             }
-            rule.room = tokens.value();
-            tokens.advance();
+            rule.room = (int) text.code;
+            text.advance();
             return true;
         }
 
         boolean readUnless(Rule rule) {
             rule.unless = NONE;
-            if (!tokens.isWord("unless")) {
+            if (!text.isWord(unlessWord)) {
                 return true;
             }
-            tokens.advance();
+            text.advance();
             int mark = meaning();
             if (mark < MARK_BASE) {
                 return false;
             }
             rule.unless = mark;
-            tokens.advance();
+            text.advance();
             return true;
         }
 
         boolean readStop() {
-            if (tokens.kind != Tokens.STOP) {
+            if (text.kind != Text.STOP) {
                 return false;
             }
-            tokens.advance();
+            text.advance();
             return true;
         }
 
-        boolean readWord(String word) {
-            if (!tokens.isWord(word)) {
+        boolean readWord(long wordCode) {
+            if (!text.isWord(wordCode)) {
                 return false;
             }
-            tokens.advance();
+            text.advance();
             return true;
         }
 
         boolean readNewName(int means) {
-            boolean can = tokens.kind == Tokens.WORD && tokens.to - tokens.from <= MOST_LETTERS;
-            if (!can || isKeyword() || meaning() != NONE || names < 0 || names >= MOST_NAMES) {
+            boolean can = text.kind == Text.WORD && text.code < Text.HUGE;
+            if (!can || isKeyword(text.code) || meaning() != NONE || names < 0 || names >= MOST_NAMES) {
                 return false;
             }
-            nameFrom[names] = tokens.from;
-            nameLength[names] = tokens.to - tokens.from;
+            nameCodes[names] = text.code;
             nameMeans[names] = means;
             names++;
-            tokens.advance();
+            text.advance();
             return true;
         }
 
-        boolean isNumber(int low, int high) {
-            return tokens.kind == Tokens.NUMBER && tokens.value() >= low && tokens.value() <= high;
-        }
-
-        boolean isKeyword() {
-            for (int k = 0; k < KEYWORDS; k++) {
-                if (tokens.isWord(keyword(k))) {
-                    return true;
-                }
-            }
-            return false;
-        }
-
-        static String keyword(int k) {
-            switch (k) {
-                case 0: return "guest";
-                case 1: return "mark";
-                case 2: return "is";
-                case 3: return "above";
-                case 4: return "even";
-                case 5: return "apart";
-                case 6: return "by";
-                case 7: return "in";
-                default: return "unless";
-            }
+        boolean isKeyword(long code) {
+            return code == guestWord || code == markWord || code == isWord
+                || code == aboveWord || code == evenWord || code == apartWord
+                || code == byWord || code == inWord || code == unlessWord;
         }
 
         /** What the token names: a guest's number, MARK_BASE and a mark's, or NONE. */
         int meaning() {
             for (int k = 0; k < names && k < MOST_NAMES; k++) {
-                if (tokens.isSameAs(nameFrom[k], nameLength[k])) {
+                if (text.isWord(nameCodes[k])) {
                     return nameMeans[k];
                 }
             }
@@ -775,6 +734,15 @@ public final class FirstIn {
                 number += Integer.bitCount(couples[x]);
             }
             return number;
+        }
+
+        boolean hasCoupleOf(int guests) {
+            for (int x = 0; x < MOST_GUESTS; x++) {
+                if (has(guests, x) && (couples[x] & guests) != 0) {
+                    return true;
+                }
+            }
+            return false;
         }
 
         boolean countsIn(int number) {
@@ -942,11 +910,12 @@ public final class FirstIn {
             return weight;
         }
 
-        /** The rules of above that have couples who come and count in a room, as bits. */
+        /** The rules of above that count in a room, as bits, without those that rank nobody who comes. */
         int rankingRules(int room) {
             int bits = 0;
             for (int k = 0; k < ruleCount && k < MOST_RULES; k++) {
-                if (rules[k].kind == ABOVE && rules[k].countsIn(room)) {
+                Rule rule = rules[k];
+                if (rule.kind == ABOVE && rule.countsIn(room) && rule.hasCoupleOf(coming)) {
                     bits |= 1 << k;
                 }
             }
@@ -1186,10 +1155,13 @@ public final class FirstIn {
             int rules = court.rankingRules(room);
             int best = rules;
             int bestWeight = court.weightOf(rules);
-            for (int bits = 0; bits < rules; bits++) {
-                int weight = (bits & ~rules) == 0 ? court.weightOf(bits) : bestWeight + 1;
-                boolean lighter = weight < bestWeight
-                    || weight == bestWeight && Integer.bitCount(bits) < Integer.bitCount(best);
+            for (int bits = 0; bits < rules && bestWeight > 0; bits++) {
+                if ((bits & ~rules) != 0) {
+                    continue;
+                }
+                int weight = court.weightOf(bits);
+                boolean fewer = Integer.bitCount(bits) < Integer.bitCount(best);
+                boolean lighter = weight < bestWeight || weight == bestWeight && fewer;
                 if (lighter && isRinglessWithout(court, room, bits)) {
                     best = bits;
                     bestWeight = weight;
