@@ -1194,12 +1194,6 @@ public final class FirstIn {
         /** Each group that goes in together is told by its least guest, its leader. */
         int fewestRounds(int doors) {
             int leaders = formGroups();
-            for (int guest = 0; guest < MOST_GUESTS; guest++) {
-                boolean tooMany = Integer.bitCount(together[guest]) > doors;
-                if (has(leaders, guest) && (tooMany || has(ahead[guest], guest))) {
-                    return NONE;
-                }
-            }
             Arrays.fill(roundsFor, NONE);
             roundsFor[0] = 0;
             for (int in = 0; in < leaders; in++) {

@@ -4,6 +4,8 @@ import java.util.Random;
 /** Random runs of calls, each answer against the one of Oracle. Arguments: the first seed, how many runs. */
 public final class OracleTest {
     private static final int CALLS_OF_A_RUN = 512;
+    private static final int[] FAR = {Integer.MIN_VALUE, Integer.MIN_VALUE + 1, Integer.MAX_VALUE, Integer.MAX_VALUE - 1,
+        -32, 31, 32, 100, 1 << 30};
 
     private final Check check;
     private final Random random;
@@ -108,7 +110,16 @@ public final class OracleTest {
 
     /** Mostly one that can be, now and then just beside. */
     private int any(int below) {
-        return random.nextInt(12) == 0 ? random.nextInt(below + 3) - 2 : random.nextInt(Math.max(1, below));
+        switch (random.nextInt(24)) {
+            case 0:
+                return random.nextInt(below + 3) - 2;
+            case 1:
+                return random.nextInt(2) == 0 ? below : -1;
+            case 2:
+                return FAR[random.nextInt(FAR.length)];
+            default:
+                return random.nextInt(Math.max(1, below));
+        }
     }
 
     private int guest() {

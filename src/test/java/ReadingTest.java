@@ -11,6 +11,7 @@ public final class ReadingTest {
         feed();
         end();
         faultOfLines();
+        faultOfEnds();
         faultOfNames();
         faultOfNumbers();
         faultOfTooMany();
@@ -133,6 +134,17 @@ public final class ReadingTest {
         faultAt("guest a; mark m is a; above a a by 1 unless m #unless m;");
         faultAt("guest a; above a a by 1 in #unless;");
         faultAt("guest a; above a a by 1 #2;");
+    }
+
+    /** A text that ends behind each of its tokens: too early, but behind a line's last one. */
+    private static void faultOfEnds() {
+        String[] tokens = ("guest a ; guest b ; mark m is b a ; above a m by 3 in 2 unless m ; even m b by 1 ;"
+            + " apart b a by 2 unless m ; mark n is a ;").split(" ");
+        StringBuilder text = new StringBuilder();
+        for (String token : tokens) {
+            text.append(token).append(' ');
+            fault(text.toString(), token.equals(";") ? -1 : text.length());
+        }
     }
 
     private static void faultOfNames() {
